@@ -7,8 +7,8 @@ public final class DeepShip {
 
     private static final int MOST_MILES = 16, TEXT_MILES = 8;
     private static final int DEPTH = 0, WIDTH = 1, SALT = 2, MUD = 3, QUAY = 4, PLAN = 5, MARKS = 6;
-    private static final int[] LOWEST_MARK = {20, 10, 0, 0, 0, 1};
-    private static final int[] HIGHEST_MARK = {250, 99, 9, 20, 40, 15};
+    private static final int[] LOWEST_MARK = {20, 10, 0, 0, 0};
+    private static final int[] HIGHEST_MARK = {250, 99, 9, 20, 40};
 
     private static final int HOURS = 24, DAY_MINUTES = 1440, LAST_MINUTE = 4000, HIGHEST_TIDE = 99;
 
@@ -185,14 +185,9 @@ public final class DeepShip {
     }
 
     public int least(int ship, int minute, int mile) {
-        if (!isStart(ship, minute) || !within(mile, -1, MOST_MILES - 1)) {
-            return BAD;
-        }
-        if (port.miles == 0) {
-            return NOT;
-        }
-        if (mile >= port.miles) {
-            return BAD;
+        int refusal = refusalAt(ship, minute, mile, -1);
+        if (refusal != 0) {
+            return refusal;
         }
         trial.begin(ship);
         search.begin(trial);
@@ -378,14 +373,9 @@ public final class DeepShip {
     }
 
     public int touched(int ship, int minute, int mile) {
-        if (!isStart(ship, minute) || !within(mile, 0, MOST_MILES - 1)) {
-            return BAD;
-        }
-        if (port.miles == 0) {
-            return NOT;
-        }
-        if (mile >= port.miles) {
-            return BAD;
+        int refusal = refusalAt(ship, minute, mile, 0);
+        if (refusal != 0) {
+            return refusal;
         }
         trial.begin(ship);
         int winds = 0;
@@ -488,6 +478,17 @@ public final class DeepShip {
 
     private boolean isStart(int ship, int minute) {
         return port.hasShip(ship) && isMinute(minute);
+    }
+
+    /** A number that no mile can have is refused ahead of a channel without miles, one that no mile has now behind it. */
+    private int refusalAt(int ship, int minute, int mile, int lowest) {
+        if (!isStart(ship, minute) || !within(mile, lowest, MOST_MILES - 1)) {
+            return BAD;
+        }
+        if (port.miles == 0) {
+            return NOT;
+        }
+        return mile < port.miles ? 0 : BAD;
     }
 
     private boolean isPlaced(int ship, int mile, int minute, int pace) {

@@ -85,6 +85,9 @@ public final class MeetingTest {
         DUE.due("one starts when the other one is out", x.meet(0, 50, 6, 1, 0, 6), -4);
         DUE.due("one starts in the last minute of the other one", x.meet(0, 49, 6, 1, 0, 6), 0);
         DUE.due("at a border neither meets the other one", x.meet(0, 0, 6, 1, 10, 6), -4);
+        DUE.due("the other one has passed mile 0 just now", x.meet(0, 50, 6, 1, 1, 5), 0);
+        DUE.due("20 to 39 in mile 0, the other one 40 to 49", x.meet(0, 20, 3, 1, 0, 6), -4);
+        DUE.due("21 to 40 in mile 0, the other one 40 to 49", x.meet(0, 21, 3, 1, 0, 6), 0);
         DUE.due("one is slow", x.meet(0, 0, 1, 1, 0, 15), 0);
         DUE.due("the other one is slow", x.meet(0, 0, 15, 1, 0, 1), 4);
         DUE.due("the last minutes of a day", x.meet(0, 1439, 6, 1, 1439, 6), 2);
@@ -111,6 +114,8 @@ public final class MeetingTest {
         DUE.due("past(0, 0, 999)", x.past(0, 0, 999), 15);
         x.make(0, 4, 40);
         DUE.due("20 by 40 is 0", x.past(0, 0, 0), 1);
+        x.make(0, 4, 1);
+        DUE.due("a quay at 1: 20", x.past(0, 0, 20), 1);
         DUE.due("past(0, 0, 1000)", x.past(0, 0, 1000), -1);
         DUE.due("past(0, 0, -1)", x.past(0, 0, -1), -1);
         DUE.due("past(1, 0, 0)", x.past(1, 0, 0), -1);

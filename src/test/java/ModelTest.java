@@ -28,6 +28,7 @@ public final class ModelTest {
         if (random.nextInt(10) > 0) {
             for (int i = 0; i < 12; i++) build(run);
         }
+        if (run % 10 == 0) narrow(run);
         for (int call = 0; call < CALLS; call++) {
             int kind = random.nextInt(20);
             if (kind < 4) build(run);
@@ -36,6 +37,15 @@ public final class ModelTest {
             else if (kind < 17) meetings(run);
             else sheets(run);
         }
+    }
+
+    /** A long channel in which a ship comes on slowly, if at all, so that runs go far into the next day. */
+    private void narrow(int run) {
+        for (int mile = 0; mile < 16; mile++) {
+            int depth = deep + 5 + random.nextInt(3), width = 10 + random.nextInt(8);
+            same(run, "mile(" + depth + ", " + width + ")", x.mile(depth, width), plain.mile(depth, width));
+        }
+        same(run, "ship(" + deep + ", 10, 9)", x.ship(deep, 10, 9), plain.ship(deep, 10, 9));
     }
 
     /** Mostly from low to high, now and then an edge or just outside. */

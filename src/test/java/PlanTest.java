@@ -6,6 +6,7 @@ public final class PlanTest {
         refusals();
         least();
         likePaces();
+        slowest();
         starts();
         deepest();
         day();
@@ -111,6 +112,19 @@ public final class PlanTest {
         DUE.due("deepest: 126 and 124.74", x.deepest(0, 0), 126);
     }
 
+    /** As slow as can be, through as many miles as can be, from the last minute on. */
+    private static void slowest() {
+        DeepShip x = new DeepShip();
+        x.ship(90, 10, 30);
+        for (int mile = 0; mile < 16; mile++) {
+            x.mile(95, 10);
+        }
+        DUE.due("pace 2 sinks 1: 16 miles by 60 minutes", x.least(0, 1439, -1), 960);
+        DUE.due("pace in the last mile", x.least(0, 1439, 15), 1);
+        DUE.due("starts", x.starts(0, 0), 1440);
+        DUE.due("the last start", x.starts(0, 2), 1439);
+    }
+
     private static void starts() {
         DeepShip x = new DeepShip();
         x.ship(90, 20, 30);
@@ -131,6 +145,11 @@ public final class PlanTest {
         DUE.due("starts round midnight", x.starts(0, 0), 55 + 56);
         DUE.due("starts round midnight", x.starts(0, 1), 0);
         DUE.due("starts round midnight", x.starts(0, 2), 1439);
+        x.make(0, 0, 35);
+        for (int what = 0; what < 3; what++) {
+            DUE.due("one start alone, at minute 0", x.starts(0, what), what == 0 ? 1 : 0);
+        }
+        x.make(0, 0, 90);
         x.mile(90, 40);
         // She has to be over mile 1, too: 4 minutes ahead of the last minute at most, slower where it is low.
         DUE.due("the last start is that of the day", x.starts(0, 2), 1439);
@@ -226,6 +245,9 @@ public final class PlanTest {
         DUE.due("dredged", x.dredged(0, 0, 0), 1);
         DUE.due("dredged", x.dredged(0, 0, 1), 2);
         DUE.due("nothing stays dredged", x.least(0, 0, -1), 22);
+        x.mile(99, 40);
+        DUE.due("dredged: of like ones the first", x.dredged(0, 0, 0), 1);
+        x.make(2, 0, 250);
         x.make(1, 0, 250);
         DUE.due("dredged: none saves", x.dredged(0, 0, 0), 0);
         DUE.due("dredged: none saves", x.dredged(0, 0, 1), 0);

@@ -17,6 +17,8 @@ public final class TextTest {
         DUE.due("type(49, 0)", x.type(49, 0), -1);
         DUE.due("type(49, 9)", x.type(49, 9), -1);
         DUE.due("type(49, -1)", x.type(49, -1), -1);
+        DUE.due("type of 9 bytes", x.type(0x3131313131313131L, 9), -1);
+        DUE.due("type of no byte", x.type(0x3131313131313131L, 0), -1);
         DUE.due("type of a byte 31", x.type(31, 1), -1);
         DUE.due("type of a byte 127", x.type(127, 1), -1);
         DUE.due("type of a byte 255", x.type(0x31FF31, 3), -1);

@@ -59,13 +59,15 @@ public final class WaterTest {
         DUE.due("under in fresh water: 810 by 400", x.under(0, 0, 0, 8), -1);
         x.make(0, 2, 5);
         DUE.due("under at salt 5: 360 by 400", x.under(0, 0, 0, 8), 1);
+        x.ship(100, 20, 30);
+        DUE.due("under at salt 5: 400 by 400", x.under(1, 0, 0, 1), -1);
         x.set(1, 3);
         DUE.due("sinks by wind 3: 115200 by 11280", x.sinks(0, 0, 0, 8), 10);
         DUE.due("under by wind 3: 94 less 90, 10, 3", x.under(0, 0, 0, 8), -9);
         x.height(0, 20);
         DUE.due("sinks at high water: 115200 by 13680", x.sinks(0, 0, 0, 8), 8);
         DUE.due("under at high water", x.under(0, 0, 0, 8), 13);
-        int[][] bad = {{-1, 0, 0, 8}, {1, 0, 0, 8}, {0, -1, 0, 8}, {0, 1, 0, 8}, {0, 0, -1, 8}, {0, 0, 4001, 8}, {0, 0, 0, 0}, {0, 0, 0, 16}};
+        int[][] bad = {{-1, 0, 0, 8}, {2, 0, 0, 8}, {0, -1, 0, 8}, {0, 1, 0, 8}, {0, 0, -1, 8}, {0, 0, 4001, 8}, {0, 0, 0, 0}, {0, 0, 0, 16}};
         for (int[] call : bad) {
             DUE.due("sinks", x.sinks(call[0], call[1], call[2], call[3]), -1);
             DUE.due("under", x.under(call[0], call[1], call[2], call[3]), -100001);
@@ -74,8 +76,8 @@ public final class WaterTest {
         x.make(0, 1, 10);
         x.set(1, 9);
         x.ship(200, 40, 1);
-        DUE.due("the most that any ship sinks", x.sinks(1, 0, 4000, 15), 225 * 40 * 200 / (3 * 10 * 2));
-        DUE.due("the least under any ship", x.under(1, 0, 4000, 15), 2 - 200 - 200 * 4 / 400 - 30000 - 18);
+        DUE.due("the most that any ship sinks", x.sinks(2, 0, 4000, 15), 225 * 40 * 200 / (3 * 10 * 2));
+        DUE.due("the least under any ship", x.under(2, 0, 4000, 15), 2 - 200 - 200 * 4 / 400 - 30000 - 18);
     }
 
     private static void need() {
@@ -107,6 +109,13 @@ public final class WaterTest {
         all(x, -4, 28, 1, 1);
         x.set(4, 2);
         all(x, -4, 28, 1, 0);
+        x.make(0, 0, 99);
+        all(x, -4, 28, 0, 0);
+        x.set(4, 0);
+        all(x, -4, 28, 0, 1);
+        x.make(0, 0, 98);
+        all(x, 0, 0, -1, 0);
+        x.make(0, 0, 100);
         x.pace(0, 1);
         x.pace(1, 15);
         DUE.due("run touches at 1: 105 less 90, 32", x.run(0, 0, 0), 1);
