@@ -5,7 +5,7 @@ public final class DeepShip {
     /** Where a told thing may be below 0, a refusal lies so much lower that it can't be taken for one. */
     private static final int LOWER = 100000;
 
-    private static final int MOST_MILES = 16, TEXT_MILES = 8;
+    private static final int MOST_MILES = 16, TEXT_MILES = 8, NO_MILE = -1;
     private static final int DEPTH = 0, WIDTH = 1, SALT = 2, MUD = 3, QUAY = 4, PLAN = 5, MARKS = 6;
     private static final int[] LOWEST_MARK = {20, 10, 0, 0, 0};
     private static final int[] HIGHEST_MARK = {250, 99, 9, 20, 40};
@@ -22,10 +22,12 @@ public final class DeepShip {
     private static final int MOST_PACE = 15, FARTHEST = 99;
 
     /**
-     * The paces that a quickest plan can need: of paces that take like minutes (9 and 10, 11 and 12, 13 to 15)
-     * the slowest sinks least and comes first in a row, so that the others never win.
+     * The paces that a quickest plan can need, and the minutes that each takes for a mile: of paces that take like
+     * minutes (9 and 10, 11 and 12, 13 to 15) the slowest sinks least and comes first in a row, so that the others
+     * never win.
      */
     private static final int[] PACES = {1, 2, 3, 4, 5, 6, 7, 8, 9, 11, 13};
+    private static final int[] TAKES = {60, 30, 20, 15, 12, 10, 8, 7, 6, 5, 4};
 
     /** Rows of minutes are bits: 1440 starts and 16 miles of 60 minutes each are 2400 of them. */
     private static final int WORD = 64, SPAN = 2400, WORDS = 38, DAY_WORDS = 23;
@@ -343,9 +345,11 @@ public final class DeepShip {
         for (int mile = 0; mile < port.miles; mile++) {
             if (port.markOf(mile, DEPTH) < HIGHEST_MARK[DEPTH]) {
                 trial.dug = mile;
-                search.rule(trial);
+                search.ruleMile(trial, mile);
                 // Deeper water never ends a plan: there is a quickest one here, too.
                 int saves = asItIs - search.quickest(minute);
+                trial.dug = NO_MILE;
+                search.ruleMile(trial, mile);
                 if (saves > saved) {
                     saved = saves;
                     best = mile;
@@ -671,7 +675,6 @@ public final class DeepShip {
 
     /** A ship in the water as it is, or as it might be: by another wind, draught or rule, or with one mile deeper. */
     private static final class Trial {
-        private static final int NO_MILE = -1;
         private final Port port;
         private int draught = 0;
         private int breadth = 0;
@@ -717,10 +720,15 @@ public final class DeepShip {
             return pace * pace * breadth * draught / Math.max(1, room);
         }
 
+        /** What is under her while she makes no way. */
+        int atRest(int mile, int level) {
+            int fresh = draught * (9 - port.markOf(mile, SALT)) / 400;
+            return level - draught - fresh - breadth * wind / 20;
+        }
+
         int clearance(int mile, int tide, int pace) {
             int level = level(mile, tide);
-            int fresh = draught * (9 - port.markOf(mile, SALT)) / 400;
-            return level - draught - fresh - sinking(mile, level, pace) - breadth * wind / 20;
+            return atRest(mile, level) - sinking(mile, level, pace);
         }
     }
 
@@ -760,6 +768,8 @@ public final class DeepShip {
     private static final class Search {
         private static final int NEVER = HIGHEST_TIDE + 1;
         private final Port port;
+        private final int[] laid = new int[HOURS];
+        private int laidLate = -1;
         private final long[][] flood = new long[NEVER][WORDS];
         private final int[] enough = new int[MOST_MILES * PACES.length];
         private final long[][] rows = new long[MOST_MILES + 1][WORDS];
@@ -773,8 +783,13 @@ public final class DeepShip {
             rule(trial);
         }
 
-        /** flood[h] becomes the minutes at which the tide is h or higher. */
+        /** flood[h] becomes the minutes at which the tide is h or higher; most calls find the tide as it was. */
         void layTide() {
+            if (isLaid()) {
+                return;
+            }
+            System.arraycopy(port.heights, 0, laid, 0, HOURS);
+            laidLate = port.settings[LATE];
             for (int high = 0; high < NEVER; high++) {
                 wipe(flood[high]);
             }
@@ -791,17 +806,30 @@ public final class DeepShip {
             }
         }
 
+        private boolean isLaid() {
+            boolean same = laidLate == port.settings[LATE];
+            for (int hour = 0; hour < HOURS && same; hour++) {
+                same = laid[hour] == port.heights[hour];
+            }
+            return same;
+        }
+
         /** enough: by mile and pace the least tide that will do. */
         void rule(Trial trial) {
             for (int mile = 0; mile < port.miles; mile++) {
-                int tide = 0;
-                for (int i = 0; i < PACES.length; i++) {
-                    // What is too low for one pace is so for each quicker one: the search goes on from there.
-                    while (tide < NEVER && trial.clearance(mile, tide, PACES[i]) < trial.needed) {
-                        tide++;
-                    }
-                    enough[mile * PACES.length + i] = tide;
+                ruleMile(trial, mile);
+            }
+        }
+
+        void ruleMile(Trial trial, int mile) {
+            // What is too low for a ship at rest, or for one pace, is so for each quicker one: the search goes on there.
+            int lacks = trial.needed - trial.atRest(mile, trial.level(mile, 0));
+            int tide = Math.max(0, Math.min(NEVER, lacks));
+            for (int i = 0; i < PACES.length; i++) {
+                while (tide < NEVER && trial.clearance(mile, tide, PACES[i]) < trial.needed) {
+                    tide++;
                 }
+                enough[mile * PACES.length + i] = tide;
             }
         }
 
@@ -844,7 +872,7 @@ public final class DeepShip {
         private int slowest(int mile, int minute) {
             for (int i = 0; i < PACES.length; i++) {
                 int tide = enough[mile * PACES.length + i];
-                if (tide < NEVER && hasBit(flood[tide], minute) && hasBit(rows[mile + 1], minute + minutesBy(PACES[i]))) {
+                if (tide < NEVER && hasBit(flood[tide], minute) && hasBit(rows[mile + 1], minute + TAKES[i])) {
                     return PACES[i];
                 }
             }
@@ -854,10 +882,22 @@ public final class DeepShip {
         /** From the minutes at which she may come to a mile those for the next one. */
         private void goOn(int mile) {
             wipe(rows[mile + 1]);
+            for (int word = 0; word < WORDS; word++) {
+                if (rows[mile][word] != 0) {
+                    moveLater(mile, word);
+                }
+            }
+        }
+
+        private void moveLater(int mile, int word) {
             for (int i = 0; i < PACES.length; i++) {
                 int tide = enough[mile * PACES.length + i];
                 if (tide < NEVER) {
-                    later(rows[mile], flood[tide], rows[mile + 1], minutesBy(PACES[i]));
+                    long bits = rows[mile][word] & flood[tide][word];
+                    rows[mile + 1][word] |= bits << TAKES[i];
+                    if (word + 1 < WORDS) {
+                        rows[mile + 1][word + 1] |= bits >>> WORD - TAKES[i];
+                    }
                 }
             }
         }
@@ -865,38 +905,27 @@ public final class DeepShip {
         /** From the minutes at which she may have passed the last mile those for all miles ahead of it. */
         private void goBack() {
             for (int mile = port.miles - 1; mile >= 0; mile--) {
-                wipe(rows[mile]);
-                for (int i = 0; i < PACES.length; i++) {
-                    int tide = enough[mile * PACES.length + i];
-                    if (tide < NEVER) {
-                        earlier(rows[mile + 1], flood[tide], rows[mile], minutesBy(PACES[i]));
-                    }
+                for (int word = 0; word < WORDS; word++) {
+                    long next = word + 1 < WORDS ? rows[mile + 1][word + 1] : 0;
+                    rows[mile][word] = earlier(mile, word, rows[mile + 1][word], next);
                 }
             }
+        }
+
+        private long earlier(int mile, int word, long here, long next) {
+            long bits = 0;
+            for (int i = 0; i < PACES.length && (here | next) != 0; i++) {
+                int tide = enough[mile * PACES.length + i];
+                if (tide < NEVER) {
+                    bits |= flood[tide][word] & (here >>> TAKES[i] | next << WORD - TAKES[i]);
+                }
+            }
+            return bits;
         }
 
         private static void wipe(long[] row) {
             for (int word = 0; word < row.length; word++) {
                 row[word] = 0;
-            }
-        }
-
-        private static void later(long[] from, long[] high, long[] to, int minutes) {
-            for (int word = 0; word < WORDS; word++) {
-                long bits = from[word] & high[word];
-                if (bits != 0) {
-                    to[word] |= bits << minutes;
-                    if (word + 1 < WORDS) {
-                        to[word + 1] |= bits >>> WORD - minutes;
-                    }
-                }
-            }
-        }
-
-        private static void earlier(long[] from, long[] high, long[] to, int minutes) {
-            for (int word = 0; word < WORDS; word++) {
-                long next = word + 1 < WORDS ? from[word + 1] : 0;
-                to[word] |= high[word] & (from[word] >>> minutes | next << WORD - minutes);
             }
         }
     }

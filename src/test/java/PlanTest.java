@@ -139,8 +139,17 @@ public final class PlanTest {
         DUE.due("starts", x.starts(0, 2), 355);
         x.set(0, 90);
         DUE.due("starts of a tide that is late", x.starts(0, 1), 335);
+        x.image();
         x.set(0, 0);
         x.height(5, 0);
+        DUE.due("starts without a tide", x.starts(0, 0), 0);
+        x.restore();
+        DUE.due("starts of a tide that is back", x.starts(0, 1), 335);
+        Due.type(x, "0,0,60,0,0,0,0,0,0,0,0,0,0,0,0,0,0,0,0,0,0,0,0,0");
+        DUE.due("tides()", x.tides(), 60);
+        DUE.due("starts of a tide that is told as a text", x.starts(0, 1), 155);
+        x.height(2, 0);
+        x.set(0, 0);
         x.height(0, 60);
         DUE.due("starts round midnight", x.starts(0, 0), 55 + 56);
         DUE.due("starts round midnight", x.starts(0, 1), 0);
