@@ -669,7 +669,8 @@ public final class DeepShip {
         }
 
         int levelAt(int mile, int tide, int wind) {
-            return markOf(mile, DEPTH) + markOf(mile, MUD) * settings[SOFT] / 10 + tide - 2 * wind;
+            int at = mile * MARKS;
+            return marks[at + DEPTH] + marks[at + MUD] * settings[SOFT] / 10 + tide - 2 * wind;
         }
     }
 
