@@ -57,8 +57,8 @@ public final class ModelTest {
         return low + random.nextInt(high - low + 1);
     }
 
-    private int aMile() { return of(0, Math.max(0, x.count(0) - 1)); }
-    private int aShip() { return of(0, Math.max(0, x.count(1) - 1)); }
+    private int aMile() { return of(0, Math.max(0, plain.count(0) - 1)); }
+    private int aShip() { return of(0, Math.max(0, plain.count(1) - 1)); }
     private int aMinute() { return of(0, 1439); }
     private int near(int minute) { return Math.max(0, Math.min(1439, minute)) + of(-60, 60); }
     private int aPace() { return of(1, 15); }
@@ -210,7 +210,7 @@ public final class ModelTest {
                     x.touched(ship, minute, mile), plain.touched(ship, minute, mile));
                 break;
             case 12:
-                int all = (1 << x.count(1)) - 1;
+                int all = (1 << plain.count(1)) - 1;
                 int ships = random.nextInt(10) == 0 ? random.nextInt() : random.nextInt(64) & all;
                 int gap = of(1, 240), k = of(-1, 5);
                 same(run, "day(" + ships + ", " + gap + ", " + k + ")", x.day(ships, gap, k), plain.day(ships, gap, k));
