@@ -2,17 +2,12 @@ import java.lang.reflect.Constructor;
 import java.lang.reflect.Field;
 import java.lang.reflect.Method;
 import java.lang.reflect.Modifier;
-import java.nio.file.Files;
-import java.nio.file.Path;
-import java.util.ArrayList;
 import java.util.HashSet;
 import java.util.List;
 import java.util.Set;
 import java.util.TreeSet;
-import java.util.regex.Matcher;
-import java.util.regex.Pattern;
 
-/** The public face is the document's and nothing else; some rules of LANGUAGE.md that can be seen from outside. */
+/** The public face is the document's and nothing else (rule 1 of LANGUAGE.md). */
 public final class FaceTest {
     private static final String[] FACE = {
         "mile int int", "make int int int", "told int int", "height int int", "set int int", "ship int int int",
@@ -31,7 +26,6 @@ public final class FaceTest {
         face(due);
         constants(due);
         names(due);
-        source(due);
         due.finish();
     }
 
@@ -75,37 +69,14 @@ public final class FaceTest {
         for (String line : FACE) {
             face.add(line.split(" ")[0]);
         }
-        List<Class<?>> all = new ArrayList<>(List.of(DeepShip.class.getDeclaredClasses()));
-        due.due("classes", all.size() < 12 ? 1 : 0, 1);
-        for (Class<?> inner : all) {
+        for (Class<?> inner : DeepShip.class.getDeclaredClasses()) {
             for (Method method : inner.getDeclaredMethods()) {
                 due.due(method + " bears a name of the face", face.contains(method.getName()) ? 1 : 0, 0);
             }
-            int fields = 0;
-            for (Field field : inner.getDeclaredFields()) {
-                fields += Modifier.isStatic(field.getModifiers()) ? 0 : 1;
-            }
-            due.due(inner + " has few fields", fields <= 20 ? 1 : 0, 1);
         }
         for (Method method : DeepShip.class.getDeclaredMethods()) {
             if (Modifier.isPrivate(method.getModifiers())) {
                 due.due(method + " bears a name of the face", face.contains(method.getName()) ? 1 : 0, 0);
-            }
-        }
-    }
-
-    private static void source(Due due) throws Exception {
-        String text = Files.readString(Path.of("src/main/java/DeepShip.java"));
-        String bare = text.replaceAll("(?s)/\\*.*?\\*/", "").replaceAll("//.*", "");
-        String[] ruledOut = {"\\bimport\\b", "\\bpackage\\b", "\\bthrow", "\\btry\\b", "\\bcatch\\b", "\\bfinally\\b",
-            "->", "::", "\\bassert\\b", "synchronized", "static \\{", "\\bdouble\\b", "\\bfloat\\b", "Exact\\("};
-        for (String rule : ruledOut) {
-            Matcher found = Pattern.compile(rule).matcher(bare);
-            due.due("the program holds " + rule, found.find() ? 1 : 0, 0);
-        }
-        for (char sign : text.toCharArray()) {
-            if (sign > 126) {
-                due.due("a sign of the program", sign, ' ');
             }
         }
     }
